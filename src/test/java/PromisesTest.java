@@ -135,6 +135,8 @@ public final class PromisesTest {
         DayTables y = Check.land("feast 2;feast 6;days 4;days 3;feast 2;village 0 1 2;feast 1");
         due("4 feasts of fewer days", 6, () -> y.count(10));
         due("4 days", 3, () -> y.count(9));
+        DayTables z = Check.land("feast 0;feast 3;feast 4;feast 5;days 4");
+        due("4 feasts that are days still", 9, () -> z.count(10));
     }
 
     private static void faultOf(int at, String text) {
@@ -171,6 +173,8 @@ public final class PromisesTest {
         faultOf(30, three + "person 0 10000");
         faultOf(28, three + "fact 0 3");
         faultOf(28, three + "road 0 1 1");
+        faultOf(three.length() + 23, three + "village 0 1 2;road 0 1 0");
+        faultOf(three.length() + 23, three + "village 0 1 2;road 0 1 6");
         faultOf(27, three + "task 0x");
         faultOf(30, three + "task 0 0 afte 0");
         faultOf(35, three + "task 0 0 after");
@@ -266,6 +270,7 @@ public final class PromisesTest {
         lawFault(4, "bar;");
         lawFault(4, "bar 1");
         lawFault(5, "earn 0000");
+        lawFault(5, "earn 100");
         lawFault(5, "earn if again");
         lawFault(7, "earn 5 and");
         lawFault(7, "earn 5 i");
@@ -785,7 +790,9 @@ public final class PromisesTest {
         due("36 in the order that is soonest", "400 6", () -> planned(x, 1, 1 | 64));
         Check.law(x, "bar if printing < 100");
         due("36 not within 400", "-1 -1", () -> planned(x, 1, 64));
-        x.dawns(2);
+        x.dawns(1);
+        due("36 nor when it is the 401st", "-1 -1", () -> planned(x, 1, 64));
+        x.dawns(1);
         due("36 within 400 from now", "402 6", () -> planned(x, 1, 64));
         due("36 not yet", "-1 -1", () -> planned(x, 1, 1 | 64));
     }
@@ -860,8 +867,9 @@ public final class PromisesTest {
             x.dawns(1);
         }
         due("42 twelve are remembered", 12, () -> x.count(19));
-        for (int i = 0; i < 12; i++) {
+        for (int time = 13; time > 1; time--) {
             due("39 undo", true, x::undo);
+            due("39 one dawn back", time, () -> x.count(8));
         }
         due("39 the oldest are not", false, x::undo);
         due("39 time", 2, () -> x.count(8));
