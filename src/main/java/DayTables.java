@@ -907,19 +907,22 @@ public final class DayTables {
         }
 
         boolean isBarred(int person, int village, int time) {
-            if (!law.has(Law.BAR)) {
-                return false;
-            }
             setScene(person, village, time);
             return law.someHolds(Law.BAR, scene);
         }
 
         boolean isSilent(int person, int village, int time) {
+            if (!law.has(Law.HUSH)) {
+                return false;
+            }
             setScene(person, village, time);
             return law.someHolds(Law.HUSH, scene);
         }
 
         int gainOf(int person, int village, int time) {
+            if (!law.has(Law.EARN)) {
+                return 0;
+            }
             setScene(person, village, time);
             return law.gainIn(scene);
         }
@@ -1441,7 +1444,9 @@ public final class DayTables {
             }
             for (int person = 0; person < people; person++) {
                 for (int fact = 0; fact < land.counts[Land.FACTS] && life.where[person] != NONE; fact++) {
-                    hear(person, fact);
+                    if (!life.isKnown(person, fact)) {
+                        hear(person, fact);
+                    }
                 }
             }
         }

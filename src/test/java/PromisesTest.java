@@ -739,6 +739,8 @@ public final class PromisesTest {
         due("34 -2", INDEX, () -> x.netted(-2));
         DayTables y = Check.land("days 3;village 0 1 2;person 0 0;person 0 0;debt 0 1 9 in 0 made 0 due 1;debt 1 0 9 in 0 made 0 due 1");
         due("34 even", 0, () -> y.netted(-1));
+        DayTables z = Check.land("days 3;village 0 1 2;person 0 0;person 0 0;person 0 0;debt 0 1 1 in 0 made 0 due 1;debt 0 2 1 in 0 made 0 due 1");
+        due("34 one each", 2, () -> z.netted(-1));
     }
 
     private static void feastsLived() {
