@@ -64,6 +64,38 @@ final class Check {
         }
     }
 
+    /** All that an object tells of itself, but for what is told by texts alone and never changes; in few calls. */
+    static String all(DayTables x) {
+        int[] counts = new int[19];
+        StringBuilder text = new StringBuilder();
+        for (int what = 0; what < counts.length; what++) {
+            counts[what] = x.count(what);
+            text.append(counts[what]).append(' ');
+        }
+        for (int p = 0; p < counts[1]; p++) {
+            for (int what = 0; what < 7; what++) {
+                text.append(x.person(p, what)).append(' ');
+            }
+        }
+        for (int v = 0; v < counts[0]; v++) {
+            for (int page = 0; page < counts[9]; page++) {
+                text.append(x.day(v, page)).append(' ');
+            }
+        }
+        for (int d = 0; d < counts[4]; d++) {
+            text.append(x.debt(d, 6)).append(' ');
+        }
+        for (int t = 0; t < counts[5]; t++) {
+            text.append(x.task(t, 3)).append(' ').append(x.task(t, 4)).append(' ');
+        }
+        for (int ago = 0; ago < counts[17]; ago++) {
+            text.append(x.log(ago, 0)).append(x.log(ago, 1)).append(x.log(ago, 2)).append(x.log(ago, 3)).append(' ');
+        }
+        int seed = x.seed(0);
+        x.seed(seed);
+        return text.append(seed).toString();
+    }
+
     void due(String what, Object want, Call call) {
         String got = said(call);
         asked++;

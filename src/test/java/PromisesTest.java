@@ -813,84 +813,54 @@ public final class PromisesTest {
         due("37 what without a row", ELEMENT, () -> x.log(99, -1));
     }
 
-    private static String all(DayTables x) {
-        StringBuilder text = new StringBuilder();
-        for (int what = 0; what < 19; what++) {
-            text.append(x.count(what)).append(' ');
-        }
-        for (int p = 0; p < x.count(1); p++) {
-            for (int what = 0; what < 7; what++) {
-                text.append(x.person(p, what)).append(' ');
-            }
-        }
-        for (int v = 0; v < x.count(0); v++) {
-            for (int page = 0; page < x.count(9); page++) {
-                text.append(x.day(v, page)).append(' ');
-            }
-        }
-        for (int d = 0; d < x.count(4); d++) {
-            text.append(x.debt(d, 6)).append(' ');
-        }
-        for (int t = 0; t < x.count(5); t++) {
-            text.append(x.task(t, 3)).append(' ').append(x.task(t, 4)).append(' ');
-        }
-        for (int ago = 0; ago < x.count(17); ago++) {
-            text.append(x.log(ago, 0)).append(x.log(ago, 1)).append(x.log(ago, 2)).append(x.log(ago, 3)).append(' ');
-        }
-        int seed = x.seed(0);
-        x.seed(seed);
-        return text.append(seed).toString();
-    }
-
     private static void undone() {
         DayTables x = Check.land(LAND, "chance 90;person 0 50;task 0 0;fact 0 1");
         Check.law(x, "earn 9");
         due("39 none", false, x::undo);
-        String start = all(x);
+        String start = Check.all(x);
         x.give(0, 3, 4);
-        String given = all(x);
+        String given = Check.all(x);
         x.work(0, 1);
-        String worked = all(x);
         x.tell(1, 1);
-        String told = all(x);
         x.go(0, 0);
-        String gone = all(x);
+        String gone = Check.all(x);
         x.dawns(17);
         x.seed(77);
         due("39 five", 5, () -> x.count(19));
         due("39 dawns of one call", true, x::undo);
-        due("39 as ahead of the dawns, the seed too", gone, () -> all(x));
-        due("39 going", told, () -> x.undo() ? all(x) : "");
-        due("39 telling", worked, () -> x.undo() ? all(x) : "");
-        due("39 working", given, () -> x.undo() ? all(x) : "");
-        due("39 giving", start, () -> x.undo() ? all(x) : "");
+        due("39 as ahead of the dawns, the seed too", gone, () -> Check.all(x));
+        due("39 going", "true 0", () -> x.undo() + " " + x.person(0, 0));
+        due("39 telling", "true 0", () -> x.undo() + " " + x.person(1, 5));
+        due("39 working", given, () -> x.undo() ? Check.all(x) : "");
+        due("39 giving", start, () -> x.undo() ? Check.all(x) : "");
         due("39 no more", false, x::undo);
+        DayTables z = Check.land(LAND, "chance 90;person 0 50;task 0 0;fact 0 1");
         for (int i = 0; i < 14; i++) {
-            x.dawns(1);
+            z.dawns(1);
         }
-        due("42 twelve are remembered", 12, () -> x.count(19));
+        due("42 twelve are remembered", 12, () -> z.count(19));
         for (int time = 13; time > 1; time--) {
-            due("39 undo", true, x::undo);
-            due("39 one dawn back", time, () -> x.count(8));
+            due("39 undo", true, z::undo);
+            due("39 one dawn back", time, () -> z.count(8));
         }
-        due("39 the oldest are not", false, x::undo);
-        due("39 time", 2, () -> x.count(8));
-        x.dawns(1);
+        due("39 the oldest are not", false, z::undo);
+        due("39 time", 2, () -> z.count(8));
+        z.dawns(1);
         due("39 refused acts are none", 1, () -> {
-            Check.said(() -> x.give(0, 0, 1));
-            Check.said(() -> x.go(0, 1));
-            Check.said(() -> x.work(0, 0));
-            Check.said(() -> x.tell(0, 9));
-            Check.said(() -> x.dawns(0));
-            Check.said(() -> Check.country(x, "x"));
-            Check.said(() -> Check.law(x, "x"));
-            return x.count(19);
+            Check.said(() -> z.give(0, 0, 1));
+            Check.said(() -> z.go(0, 1));
+            Check.said(() -> z.work(0, 0));
+            Check.said(() -> z.tell(0, 9));
+            Check.said(() -> z.dawns(0));
+            Check.said(() -> Check.country(z, "x"));
+            Check.said(() -> Check.law(z, "x"));
+            return z.count(19);
         });
-        Check.law(x, "");
-        due("39 a law: none", 0, () -> x.count(19));
-        x.dawns(1);
-        Check.country(x, "");
-        due("39 a text: none", false, x::undo);
+        Check.law(z, "");
+        due("39 a law: none", 0, () -> z.count(19));
+        z.dawns(1);
+        Check.country(z, "");
+        due("39 a text: none", false, z::undo);
         DayTables y = Check.land(LAND);
         y.dawns(1);
         Check.feed(y, Check.bytes("feast 1"));
@@ -911,7 +881,7 @@ public final class PromisesTest {
         DayTables x = Check.land(LAND);
         due("41 none kept", false, x::back);
         x.image();
-        String then = all(x);
+        String then = Check.all(x);
         x.dawns(9);
         Check.country(x, "feast 0;person 1 5;road 0 2 3;chance 50;misprint 0 1 2;task 0 0;fact 2 2;village 1 0 2 3");
         Check.law(x, "earn 5;bar");
@@ -920,13 +890,13 @@ public final class PromisesTest {
         due("40 undo is left", 1, () -> x.count(19));
         Check.feed(x, Check.bytes("feast 2"));
         due("41 back", true, x::back);
-        due("41 all is as it was", then, () -> all(x));
+        due("41 all is as it was", then, () -> Check.all(x));
         due("41 no act can be undone", false, x::undo);
         due("41 fault stays", 4, x::fault);
         due("41 the tape stays", 2, x::country);
         due("41 it was used", 12, () -> x.count(10));
         due("41 back once more", true, x::back);
-        due("41 all is as it was once more", then, () -> all(x));
+        due("41 all is as it was once more", then, () -> Check.all(x));
         x.dawns(1);
         x.image();
         due("40 acts can be undone still", 1, () -> x.count(19));
