@@ -8,6 +8,7 @@ public final class EdgesTest {
         new EdgesOfLife(s).all();
         new EdgesOfWays(s).all();
         new EdgesOfTables(s).all();
+        new EdgesOfFull(s).all();
         s.end(42);
     }
 }
