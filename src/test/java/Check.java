@@ -64,6 +64,15 @@ final class Check {
         }
     }
 
+    /** Of many calls the answers, parted by blanks. */
+    static String answers(Call... calls) {
+        StringBuilder all = new StringBuilder();
+        for (Call call : calls) {
+            all.append(all.length() == 0 ? "" : " ").append(said(call));
+        }
+        return all.toString();
+    }
+
     /** All that an object tells of itself, but for what is told by texts alone and never changes; in few calls. */
     static String all(DayTables x) {
         int[] counts = new int[19];

@@ -43,13 +43,7 @@ final class Sentences {
 
     /** Of many calls on one object the answers, parted by blanks. */
     void dues(String what, String want, Check.Call... calls) {
-        due(what, want, () -> {
-            StringBuilder all = new StringBuilder();
-            for (Check.Call call : calls) {
-                all.append(all.length() == 0 ? "" : " ").append(Check.said(call));
-            }
-            return all;
-        });
+        due(what, want, () -> Check.answers(calls));
     }
 
     void end(int count) {
